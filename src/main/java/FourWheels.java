@@ -59,7 +59,6 @@ public final class FourWheels {
         for (int i = 0; i < TRAYS; i++) {
             trays[i] = new Tray();
         }
-        lock.begin(told, clues);
     }
 
     // ---- the shed
@@ -1738,8 +1737,10 @@ public final class FourWheels {
         static final int WEIGHTLESS = 1024;
         static final int GONE = TRIED | UNFELT | WEIGHTLESS;
 
+        // without wheels there is one number, for which no clue holds
         private int[] cells = new int[1];
         private int size = 1;
+        // the figures that each wheel may have, as bits
         private final int[] felt = new int[MOST_WHEELS];
         private int stand;
         private int seconds;
