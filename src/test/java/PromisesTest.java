@@ -102,6 +102,15 @@ public final class PromisesTest {
         fault("wheel ?", 1, 6);
         fault("pull 0001;", 1, 5);
         fault("pull 12345;", 1, 5);
+        fault("`", 1, 0);
+        fault("{", 1, 0);
+        fault("za;", 2, 0);
+        fault("az;", 2, 0);
+        fault("wheel:", 2, 5);
+        fault("wheel/", 1, 5);
+        fault("wheel,", 1, 5);
+        fault("clue 5: 1 ? 1;", 1, 10);
+        fault("clue 5: 1 \\ 1;", 1, 10);
         fault(";", 2, 0);
         fault("wheel 2;;", 2, 8);
         fault("wheels 2;", 2, 0);
@@ -149,6 +158,22 @@ public final class PromisesTest {
         fault("pull x ; saw 0001;", 2, 5);
     }
 
+    /** As many tokens as 900 bytes can have. */
+    private static void longest() {
+        StringBuilder text = new StringBuilder("clue5:1");
+        for (int i = 1; i < 445; i++) {
+            text.append("+1");
+        }
+        text.append("=445;");
+        is("the longest text", text.length(), 900);
+        FourWheels x = Told.of(text.toString());
+        is("its lines", x.count(9), 1);
+        is("its clue", x.holds(0, 0), 1);
+        Told.feed(x, text.toString().replace(";", "*"));
+        is("without its end", x.shed(900), -32);
+        is("the text's length", x.fault(1), 900);
+    }
+
     private static void faultCall() {
         FourWheels x = new FourWheels();
         Told.shed(x, "pull 61;");
@@ -184,6 +209,9 @@ public final class PromisesTest {
         is("stands", x.wheel(1, 3), 2);
         x.tries(6);
         is("none left: wheel(0, 4)", x.wheel(0, 4), NONE);
+        is("surely 0", Told.of("wheel 3;clue 10: w 0 = 0;").wheel(0, 4), 0);
+        is("0 or 1", Told.of("wheel 3;clue 10: w 0 < 2;").wheel(0, 4), NONE);
+        is("surely the last", Told.of("wheel 3;clue 10: w 0 = 2;").wheel(0, 4), 2);
     }
 
     private static void holdsAndFigure() {
@@ -638,8 +666,10 @@ public final class PromisesTest {
         is("at once: saw(0)", y.saw(0), 0);
         is("at once: saw(1)", y.saw(1), 1);
         is("at once: saw(2)", y.saw(2), 1);
-        FourWheels z = Told.of("wheel 10;wheel 10;wheel 10;clue 9: number < 201;pull 1;saw 999;");
+        FourWheels z = Told.of("wheel 10 round;wheel 10 round;wheel 10 round;clue 10: number < 300;pull 1;saw 999;");
         is("two hundred at most: saw(0)", z.saw(0), 200);
+        FourWheels fewer = Told.of("wheel 10 round;wheel 10 round;wheel 10 round;clue 10: number < 199;pull 1;saw 999;");
+        is("all of them: saw(0)", fewer.saw(0), 199);
         FourWheels like = Told.of("wheel 2;pull 1;saw 2;");
         // 2; (1 + 3) / 2 = 2; (1 + 3) / 2 = 2
         is("like ones, the first: saw(0)", like.saw(0), 0);
@@ -906,6 +936,7 @@ public final class PromisesTest {
         feed();
         shed();
         texts();
+        longest();
         faultCall();
         wheel();
         holdsAndFigure();
