@@ -1132,7 +1132,7 @@ public final class FourWheels {
         }
 
         private boolean refuse(int why) {
-            fault = kind() == Tokens.NO_TOKEN ? 1 : why;
+            fault = tokens.kindAt(at) == Tokens.NO_TOKEN ? 1 : why;
             place = tokens.placeAt(at);
             return false;
         }
@@ -1374,13 +1374,13 @@ public final class FourWheels {
         private boolean readAtom(int within) {
             switch (kind()) {
                 case Tokens.N:
-                    return readOperand(Clues.PUSH, 999);
+                    return putOperand(Clues.PUSH, takeN(0, 999));
                 case Tokens.W:
                     at++;
-                    return readOperand(Clues.FIGURE, shed.wheels - 1);
+                    return putOperand(Clues.FIGURE, takeN(0, shed.wheels - 1));
                 case Tokens.HAS:
                     at++;
-                    return readOperand(Clues.HAS, 9);
+                    return putOperand(Clues.HAS, takeN(0, 9));
                 case Tokens.SUM:
                     return readName(Clues.SUM);
                 case Tokens.ALIKE:
@@ -1398,12 +1398,11 @@ public final class FourWheels {
             }
         }
 
-        private boolean readOperand(int operation, int high) {
-            int value = takeN(0, high);
-            if (value == NONE) {
+        private boolean putOperand(int operation, int operand) {
+            if (operand == NONE) {
                 return false;
             }
-            clues.emit(operation, value);
+            clues.emit(operation, operand);
             return true;
         }
 

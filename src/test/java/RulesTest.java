@@ -132,11 +132,24 @@ public final class RulesTest {
         }
     }
 
+    private static void depth() throws Exception {
+        Calls calls = new Calls();
+        if (calls.methods() < 100) {
+            broken("only the calls of " + calls.methods() + " methods were looked at");
+        }
+        for (String method : calls.all()) {
+            if (calls.depth(method) > 8) {
+                broken(method + " goes " + calls.depth(method) + " calls deep");
+            }
+        }
+    }
+
     public static void main(String[] args) throws IOException, Exception {
         String bare = withoutComments(Files.readString(Path.of("src/main/java/FourWheels.java")));
         words(bare);
         methods(bare);
         face();
+        depth();
         System.out.println("RulesTest: " + wrong + " rules broken");
         if (wrong != 0) {
             System.exit(1);
