@@ -18,6 +18,7 @@ final class EdgesOfTerms {
 
     void all() {
         numbers();
+        howMany();
         clues();
         kept();
         weights();
@@ -74,6 +75,40 @@ final class EdgesOfTerms {
         e.is("without WHEELS: count(1)", y.count(1), 1);
         e.is("without WHEELS: likely(0)", y.likely(0), 1);
         e.is("without WHEELS: likely(1)", y.likely(1), -3);
+    }
+
+    /** One object, told sheds of ever more numbers, and fewer again. */
+    private void howMany() {
+        e.of(0, "from 0 on in order");
+        int[][] sheds = {{2}, {3, 5}, {2, 8}, {3, 6}, {5, 5, 10}, {4, 8, 8}, {3, 9, 10}, {4, 5, 10, 10}, {4, 8, 8, 8}, {3, 7, 10, 10}, {10, 10, 10, 10}};
+        for (boolean back : new boolean[] {false, true}) {
+            FourWheels x = new FourWheels();
+            for (int i = 0; i < sheds.length; i++) {
+                int total = 1;
+                StringBuilder text = new StringBuilder("mate;");
+                for (int figures : sheds[back ? sheds.length - 1 - i : i]) {
+                    text.append("wheel ").append(figures).append(";");
+                    total *= figures;
+                }
+                Told.shed(x, text.toString());
+                e.is("numbers", x.count(1), total);
+                allOf(x, total);
+                x.image(i % 2);
+                x.tries(total - 1);
+                x.restore(i % 2);
+                allOf(x, total);
+            }
+        }
+    }
+
+    private void allOf(FourWheels x, int total) {
+        e.is("left() of " + total, x.left(), total);
+        e.is("order(the last) of " + total, x.order(total - 1), total - 1);
+        e.is("order(behind it) of " + total, x.order(total), NONE);
+        e.is("mate(0, the last) of " + total, x.mate(0, total - 1), total - 1);
+        e.is("hidden() of " + total, x.hidden(), total - 1);
+        e.is("likely(the last) of " + total, x.likely(total - 1), 1);
+        e.is("along(through(the last)) of " + total, x.along(x.through(total - 1)), total - 1);
     }
 
     private void clues() {
